@@ -16,14 +16,11 @@ public final class ArithmeticForms {
     private static final int ADD = 0;
     private static final int SUBTRACT = 1;
     private static final int MULTIPLY = 2;
-    private static final int DIVIDE = 3;
     private static final int POWER = 4;
     private static final int NEGATE = 5;
 
-    private static final int KIND_PLUS = 1;
-    private static final int KIND_MINUS = 2;
-    private static final int KIND_TIMES = 3;
-    private static final int KIND_OVER = 4;
+    private static final int KIND_GIVE = 0;
+    private static final int KIND_DIVIDE = 4;
 
     private static final int SIZE = 1;
     private static final int BY_ZERO = 2;
@@ -98,7 +95,7 @@ public final class ArithmeticForms {
     }
 
     public int run(int kind, int root, boolean phrase) {
-        if (kind < 0 || kind > KIND_OVER) {
+        if (kind < KIND_GIVE || kind > KIND_DIVIDE) {
             return WRONG;
         }
         Decimal x = nodeAt(root);
@@ -186,6 +183,21 @@ public final class ArithmeticForms {
 
     private void operate(int op, Decimal into, Decimal a, Decimal b) {
         switch (op) {
+            case POWER:
+                calculator.power(into, a, b);
+                break;
+            case NEGATE:
+                into.copy(a);
+                into.sign = -a.sign;
+                break;
+            default:
+                calculate(op, into, a, b);
+                break;
+        }
+    }
+
+    private void calculate(int op, Decimal into, Decimal a, Decimal b) {
+        switch (op) {
             case ADD:
                 calculator.add(into, a, b, 1);
                 break;
@@ -195,15 +207,8 @@ public final class ArithmeticForms {
             case MULTIPLY:
                 calculator.multiply(into, a, b);
                 break;
-            case DIVIDE:
-                calculator.divide(into, a, b);
-                break;
-            case POWER:
-                calculator.power(into, a, b);
-                break;
             default:
-                into.copy(a);
-                into.sign = -a.sign;
+                calculator.divide(into, a, b);
                 break;
         }
     }
@@ -211,7 +216,12 @@ public final class ArithmeticForms {
     /** One receiver's part of a statement; whether it was stored without a size error. */
     private boolean give(Receiver target, int kind, Decimal x, boolean phrase) {
         before.load(target.held, target.scale);
-        combine(kind, x);
+        if (kind == KIND_GIVE) {
+            given.copy(x);
+        } else {
+            // kinds 1 to 4 are the operations 0 to 3, with the receiver on the left
+            calculate(kind - 1, given, before, x);
+        }
         int code = given.code;
         if (code == 0 && target.refuses(given)) {
             code = INEXACT;
@@ -224,30 +234,10 @@ public final class ArithmeticForms {
         if (fits || code == 0 && !phrase) {
             target.held = target.lowestDigits(given.sign * target.roundedSize(given));
         }
-        if (kind == KIND_OVER) {
+        if (kind == KIND_DIVIDE) {
             target.remainder = fits ? restOf(target, x) : 0L;
         }
         return fits;
-    }
-
-    private void combine(int kind, Decimal x) {
-        switch (kind) {
-            case KIND_PLUS:
-                calculator.add(given, before, x, 1);
-                break;
-            case KIND_MINUS:
-                calculator.add(given, before, x, -1);
-                break;
-            case KIND_TIMES:
-                calculator.multiply(given, before, x);
-                break;
-            case KIND_OVER:
-                calculator.divide(given, before, x);
-                break;
-            default:
-                given.copy(x);
-                break;
-        }
     }
 
     /** The rest of the division whose quotient is given: the quotient's own rounding has no say in it. */
@@ -270,6 +260,8 @@ public final class ArithmeticForms {
         static final int LIMBS = 4;
         static final int WIDTH = 8;
         static final int PLACES = LIMBS * WIDTH;
+        /** The digits of the longest long. */
+        static final int LONGEST = 19;
 
         int code;
         int sign;
@@ -306,8 +298,8 @@ public final class ArithmeticForms {
             if (v == 0) {
                 return;
             }
-            int length = 0;
-            for (long n = v; n != 0; n /= 10) {
+            int length = 1;
+            while (length < LONGEST && v / ten(length) != 0) {
                 length++;
             }
             long n = v;

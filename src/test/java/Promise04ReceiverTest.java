@@ -23,7 +23,7 @@ public final class Promise04ReceiverTest {
         CHECK.due("a wrong one with 20", forms.receiver(0, 0, 0), -4);
         CHECK.due("set(20, 5)", forms.set(20, 5), 1);
         CHECK.due("set(21, 5)", forms.set(21, 5), -2);
-        // each one's own digits and scale: 0.1 fits all but those that count in tenths of nothing
+        // each one keeps its own digits, scale and rounding
         int tenth = forms.value(1, 1);
         CHECK.due("run(0, 0.1)", forms.run(0, tenth, true), 20);
         CHECK.due("stored(1)", forms.stored(1), 0);
