@@ -3,11 +3,22 @@ import java.math.BigInteger;
 
 /** Counts the answers that are not as due; what every test here ends with. */
 final class Check {
-    private final String name;
+    private final String test;
+    /** Stands before each answer that is not as due: the test, or the sentence that it holds the class to. */
+    private String name;
+    private int sentences;
     private int wrong;
 
-    Check(String name) {
-        this.name = name;
+    Check(String test) {
+        this.test = test;
+        name = test;
+    }
+
+    /** From here on the answers hold the class to these words of the document, by that promise. */
+    void sentence(int promise, String words) {
+        name = "promise " + promise + ", \"" + words + "\"";
+        sentences++;
+        due("the document says so (1)", Document.says(promise, words), true);
     }
 
     void due(String call, long got, long want) {
@@ -58,8 +69,24 @@ final class Check {
         }
     }
 
+    /** A number's sign, its digits from the highest on, its exponent; and that there is no digit more. */
+    void dueSides(String call, ArithmeticForms forms, int node, int sign, String digits, int exponent) {
+        due(call + " raises", forms.raises(node), 0);
+        if (forms.raises(node) != 0) {
+            return;
+        }
+        due(call + ": its sign", forms.exact(node, 0), sign);
+        due(call + ": how many digits", forms.exact(node, 1), digits.length());
+        due(call + ": its exponent", forms.exact(node, 2), exponent);
+        for (int i = 0; i < digits.length(); i++) {
+            due(call + ": digit " + i, forms.exact(node, 3 + i), digits.charAt(i) - '0');
+        }
+        due(call + ": a digit too many", forms.exact(node, 3 + digits.length()), ArithmeticForms.NONE);
+    }
+
     void end() {
-        System.out.println(wrong == 0 ? name + ": all answers are as due" : name + ": " + wrong + " answers are not as due");
+        String what = sentences == 0 ? test : test + ", " + sentences + " sentences";
+        System.out.println(wrong == 0 ? what + ": all answers are as due" : what + ": " + wrong + " answers are not as due");
         if (wrong != 0) {
             System.exit(1);
         }
