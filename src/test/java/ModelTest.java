@@ -1,11 +1,18 @@
-/** Long runs of calls, the same ones each time, on the class and on the model; every answer and the whole state. */
+/**
+ * Long runs of calls, the same ones each time, on the class and on the model. An object is used for 512 calls and no
+ * more, as nothing is promised of later ones: so each run looks at some of the state only, and there are many runs.
+ */
 public final class ModelTest {
-    private static final int CALLS = 200;
+    private static final int MOST_CALLS = 512;
+    private static final int SIDES = 37;
     private static final Check CHECK = new Check("the model");
 
     private final int run;
     private final ArithmeticForms forms;
     private final Model model;
+    /** How many looks at the state follow a call that changes it, at most. */
+    private final int looks;
+    private int calls;
     private long state;
 
     private ModelTest(int run) {
@@ -14,6 +21,16 @@ public final class ModelTest {
         int form = below(4) == 0 ? below(36) - 2 : 1 + below(31);
         forms = new ArithmeticForms(form);
         model = new Model(form);
+        looks = below(4) == 0 ? SIDES : below(8);
+    }
+
+    /** Whether the object may be called once more; counts that call. */
+    private boolean mayCall() {
+        if (calls == MOST_CALLS) {
+            return false;
+        }
+        calls++;
+        return true;
     }
 
     private long next() {
@@ -73,7 +90,7 @@ public final class ModelTest {
         long v = number();
         int scale = below(40) == 0 ? below(30) - 5 : below(19);
         due("value(" + v + ", " + scale + ")", forms.value(v, scale), model.value(v, scale));
-        compareNode(model.nodeCount());
+        lookAtNode(model.nodeCount());
     }
 
     private void makeNode() {
@@ -81,7 +98,7 @@ public final class ModelTest {
         int a = anyNode();
         int b = anyNode();
         due("node(" + op + ", " + a + ", " + b + ")", forms.node(op, a, b), model.node(op, a, b));
-        compareNode(model.nodeCount());
+        lookAtNode(below(10) == 0 ? anyNode() : model.nodeCount());
     }
 
     private void makeReceiver() {
@@ -90,6 +107,7 @@ public final class ModelTest {
         int rounding = below(20) == 0 ? below(12) - 2 : below(8);
         due("receiver(" + digits + ", " + scale + ", " + rounding + ")",
                 forms.receiver(digits, scale, rounding), model.receiver(digits, scale, rounding));
+        lookAtReceivers();
     }
 
     private void makeStatement() {
@@ -97,40 +115,63 @@ public final class ModelTest {
         int root = anyNode();
         boolean phrase = below(2) == 0;
         due("run(" + kind + ", " + root + ", " + phrase + ")", forms.run(kind, root, phrase), model.run(kind, root, phrase));
-        compareReceivers();
+        lookAtReceivers();
     }
 
     private void setReceiver() {
         int receiver = anyReceiver();
         long v = number();
         due("set(" + receiver + ", " + v + ")", forms.set(receiver, v), model.set(receiver, v));
-        compareReceivers();
+        lookAtReceivers();
     }
 
-    private void compareNode(int node) {
-        due("raises(" + node + ")", forms.raises(node), model.raises(node));
-        for (int side = -1; side < 36; side++) {
-            Long want = model.exact(node, side);
-            boolean thrown = Check.throwsArithmetic(forms, node, side);
-            due("exact(" + node + ", " + side + ") throws", thrown ? 1 : 0, want == null ? 1 : 0);
-            if (!thrown && want != null) {
-                due("exact(" + node + ", " + side + ")", forms.exact(node, side), want);
-            }
+    private void lookAtNode(int node) {
+        if (mayCall()) {
+            due("raises(" + node + ")", forms.raises(node), model.raises(node));
+        }
+        for (int i = 0; i < looks && mayCall(); i++) {
+            lookAtSide(node, looks == SIDES ? i - 1 : below(SIDES) - 1);
         }
     }
 
-    private void compareReceivers() {
-        due("raised()", forms.raised(), model.raised());
-        for (int i = 0; i <= model.receiverCount() + 1; i++) {
-            due("stored(" + i + ")", forms.stored(i), model.stored(i));
-            due("rest(" + i + ")", forms.rest(i), model.rest(i));
-            due("error(" + i + ")", forms.error(i) ? 1 : 0, model.error(i) ? 1 : 0);
+    private void lookAtSide(int node, int side) {
+        Long want = model.exact(node, side);
+        String call = "exact(" + node + ", " + side + ")";
+        try {
+            long got = forms.exact(node, side);
+            due(call + " throws", 0, want == null ? 1 : 0);
+            due(call, got, want == null ? got : want);
+        } catch (ArithmeticException e) {
+            due(call + " throws", 1, want == null ? 1 : 0);
+        }
+    }
+
+    private void lookAtReceivers() {
+        if (mayCall()) {
+            due("raised()", forms.raised(), model.raised());
+        }
+        for (int i = 0; i < looks && mayCall(); i++) {
+            lookAtReceiver(anyReceiver());
+        }
+    }
+
+    private void lookAtReceiver(int receiver) {
+        switch (below(4)) {
+            case 0:
+                due("error(" + receiver + ")", forms.error(receiver) ? 1 : 0, model.error(receiver) ? 1 : 0);
+                break;
+            case 1:
+                due("rest(" + receiver + ")", forms.rest(receiver), model.rest(receiver));
+                break;
+            default:
+                due("stored(" + receiver + ")", forms.stored(receiver), model.stored(receiver));
+                break;
         }
     }
 
     private void play() {
         int statements = 1 + below(5);
-        for (int i = 0; i < CALLS; i++) {
+        while (mayCall()) {
             switch (below(7 + statements)) {
                 case 0:
                 case 1:
@@ -152,13 +193,10 @@ public final class ModelTest {
                     break;
             }
         }
-        for (int node = 0; node <= model.nodeCount() + 1; node++) {
-            compareNode(node);
-        }
     }
 
     public static void main(String[] args) {
-        int runs = args.length > 0 ? Integer.parseInt(args[0]) : 1500;
+        int runs = args.length > 0 ? Integer.parseInt(args[0]) : 12000;
         int first = args.length > 1 ? Integer.parseInt(args[1]) : 1;
         for (int run = first; run < first + runs; run++) {
             new ModelTest(run).play();
