@@ -65,6 +65,22 @@ public final class BoundaryDecimalsTest {
         CHECK.dueSides("0.9876 * 0.001001", four, fine, 1, "9885", -7);
     }
 
+    private static void cutAtTheLowestPlace() {
+        CHECK.sentence(3, "An operation gives its exact result");
+        ArithmeticForms forms = new ArithmeticForms(31);
+        int one = forms.value(1, 0);
+        int fine = forms.node(2, forms.node(0, one, Edge.ten(forms, -30)), Edge.ten(forms, -99));
+        int three = Edge.times(forms, 3, 0, -99);
+        int ten = Edge.ten(forms, -98);
+        String nines = "9".repeat(30);
+        CHECK.dueSides("1.0..1e-99", forms, fine, 1, "1" + "0".repeat(29) + "1", -129);
+        CHECK.dueSides("1.0..1e-99 + itself", forms, forms.node(0, fine, fine), 1, "2" + "0".repeat(29) + "2", -129);
+        CHECK.dueSides("3e-99 - 1.0..1e-99", forms, forms.node(1, three, fine), 1, "1" + nines, -129);
+        CHECK.dueSides("1.0..1e-99 - 3e-99", forms, forms.node(1, fine, three), -1, "1" + nines, -129);
+        CHECK.dueSides("10^-98 - 1.0..1e-99", forms, forms.node(1, ten, fine), 1, "8" + nines, -129);
+        CHECK.dueSides("10^-98 + 1.0..1e-99", forms, forms.node(0, ten, fine), 1, "11", -99);
+    }
+
     private static void tooLarge() {
         CHECK.sentence(3, "A result of 10^99 or more is RAISED as 1");
         ArithmeticForms forms = new ArithmeticForms(31);
@@ -126,6 +142,7 @@ public final class BoundaryDecimalsTest {
         lastDigit();
         zero();
         cut();
+        cutAtTheLowestPlace();
         tooLarge();
         tooSmall();
         CHECK.end();

@@ -101,6 +101,25 @@ public final class ModelTest {
         lookAtNode(below(10) == 0 ? anyNode() : model.nodeCount());
     }
 
+    /** A decimal close to where results are raised or fall to 0, which values and single operations hardly reach. */
+    private void makeFar() {
+        int scale = below(2);
+        int times = 75 + below(25);
+        int near = anyNode();
+        due("value(1 or 10)", forms.value(scale == 0 ? 10 : 1, scale), model.value(scale == 0 ? 10 : 1, scale));
+        if (mayCall()) {
+            due("value(" + times + ", 0)", forms.value(times, 0), model.value(times, 0));
+        }
+        int last = model.nodeCount();
+        if (mayCall()) {
+            due("node(4, ..) far", forms.node(4, last - 1, last), model.node(4, last - 1, last));
+        }
+        if (mayCall()) {
+            due("node(2, ..) far", forms.node(2, last + 1, near), model.node(2, last + 1, near));
+        }
+        lookAtNode(model.nodeCount());
+    }
+
     private void makeReceiver() {
         int digits = below(20) == 0 ? below(25) - 3 : 1 + below(18);
         int scale = below(20) == 0 ? below(25) - 3 : below(Math.max(1, digits + 1));
@@ -172,7 +191,7 @@ public final class ModelTest {
     private void play() {
         int statements = 1 + below(5);
         while (mayCall()) {
-            switch (below(7 + statements)) {
+            switch (below(8 + statements)) {
                 case 0:
                 case 1:
                     makeValue();
@@ -187,6 +206,9 @@ public final class ModelTest {
                     break;
                 case 6:
                     setReceiver();
+                    break;
+                case 7:
+                    makeFar();
                     break;
                 default:
                     makeStatement();
